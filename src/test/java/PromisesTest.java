@@ -336,6 +336,19 @@ public final class PromisesTest {
         dueLay("none last", none, 0, 1, 4, 1, 0, 1, 0, 0);
         duePairs("none last", none, 0, 1, 0, 1, 2, 3, -1);
 
+        StarPlates moved = new StarPlates();
+        put(moved, 10, 500, 500, 700, 900, 900, 600, 100, 100, 104, 100, 102, 104);
+        put(moved, 20, 500, 500, 700, 900, 900, 600, 102, 102, 103, 102, 98, 98);
+        dueLay("the first of two orders", moved, 0, 1, 6, 6, 0, 1, 0, 0);
+        duePairs("the first of two orders", moved, 0, 1, 0, 1, 2, 4, 5, 3);
+
+        StarPlates wide = new StarPlates();
+        wide.reach(50);
+        put(wide, 10, 500, 500, 700, 900, 900, 600, 100, 100, 160, 100);
+        put(wide, 20, 500, 500, 700, 900, 900, 600, 110, 100, 50, 100);
+        dueLay("one pair more at any cost", wide, 0, 1, 5, 100, 0, 1, 0, 0);
+        duePairs("one pair more at any cost", wide, 0, 1, 0, 1, 2, 4, 3);
+
         StarPlates edge = new StarPlates();
         put(edge, 10, 500, 500, 700, 900, 900, 600, 100, 100);
         put(edge, 20, 500, 500, 700, 900, 900, 600, 103, 97);
@@ -422,6 +435,13 @@ public final class PromisesTest {
         for (int what = 0; what < 4; what++) {
             due("without a common part " + what, back.motion(4, what), parts[what]);
         }
+        StarPlates mixed = new StarPlates();
+        mixed.reach(5);
+        put(mixed, 20, 100, 100, 900, 120, 130, 900, 870, 940, 504, 500);
+        put(mixed, 0, 100, 100, 900, 120, 130, 900, 870, 940, 500, 500);
+        put(mixed, 10, 100, 100, 900, 120, 130, 900, 870, 940, 501, 500);
+        due("to the last by years, above", mixed.motion(4, 0), 1);
+        due("to the last by years, below", mixed.motion(4, 1), 5);
         StarPlates one = new StarPlates();
         put(one, 3, 100, 100);
         due("one spot has no motion", one.motion(0, 0), NO_PLACE);
@@ -429,13 +449,14 @@ public final class PromisesTest {
         due("nor has one with misses alone", one.motion(0, 1), NO_PLACE);
     }
 
-    /** A track from 500 by middle (year 10) to last (year 20) in x, or in y, at reach 5. */
-    private static int steady(int middle, int last, boolean inX) {
+    /** A track from 500 (year 0) by middle to last (year 20) in x, or in y, at reach 5. */
+    private static int steady(int year, int middle, int last, boolean inX) {
         StarPlates s = new StarPlates();
         s.reach(5);
         int[] at = {500, middle, last};
+        int[] years = {0, year, 20};
         for (int p = 0; p < 3; p++) {
-            put(s, 10 * p, 100, 100, 900, 120, 130, 900, 870, 940,
+            put(s, years[p], 100, 100, 900, 120, 130, 900, 870, 940,
                     inX ? at[p] : 500, inX ? 500 : at[p]);
         }
         due("all found", s.tell(4, 2), 3);
@@ -444,12 +465,14 @@ public final class PromisesTest {
 
     private static void tellSteady() {
         for (int axis = 0; axis < 2; axis++) {
-            due("off by 5", steady(497, 504, axis == 0), 1);
-            due("off by 6", steady(496, 504, axis == 0), 0);
-            due("off by 4.5", steady(498, 505, axis == 0), 1);
-            due("off by 5.5", steady(497, 505, axis == 0), 0);
-            due("off by 5.5 the other way", steady(503, 495, axis == 0), 0);
-            due("gone and back", steady(505, 500, axis == 0), 1);
+            due("off by 5", steady(10, 497, 504, axis == 0), 1);
+            due("off by 6", steady(10, 496, 504, axis == 0), 0);
+            due("off by 4.5", steady(10, 498, 505, axis == 0), 1);
+            due("off by 5.5", steady(10, 497, 505, axis == 0), 0);
+            due("off by 5.5 the other way", steady(10, 503, 495, axis == 0), 0);
+            due("off by a twentieth more than 5", steady(7, 496, 503, axis == 0), 0);
+            due("off by a twentieth less than 5", steady(13, 497, 503, axis == 0), 1);
+            due("gone and back", steady(10, 505, 500, axis == 0), 1);
         }
     }
 
@@ -480,7 +503,10 @@ public final class PromisesTest {
         due("the least other one", many.tell(4, 3), 6);
         due("y counts too", many.tell(5, 3), -1);
         due("the least other one of 6", many.tell(6, 3), 4);
-        due("the least other one of 7", many.tell(7, 3), 4);
+        many.wipe(1, 4);
+        due("one without motion goes with none", many.tell(4, 3), -1);
+        due("nor does another one go with it", many.tell(6, 3), 7);
+        due("the least other one of 7", many.tell(7, 3), 6);
     }
 
     private static void foretell() {
@@ -552,6 +578,7 @@ public final class PromisesTest {
 
         StarPlates s = slipped(132, 456, 123, 456);
         dueSlip("a spot in a pair", s, 0, 0, -1, -1, -1);
+        dueSlip("a spot in a pair that would fit", slipped(1, 1, 50, 500), 0, 0, -1, -1, -1);
         dueSlip("of the frame", s, 1, 3, -1, -1, -1);
         due("what 3", s.slip(0, 3, 3), -1);
         due("no spot 4", s.slip(0, 4, 0), -1);
