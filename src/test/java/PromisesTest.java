@@ -1,70 +1,12 @@
 /** Each promise of the document by runs whose answers were worked out by hand. */
-public final class PromisesTest {
-    private static final int NO_PLACE = -10000;
-    private static final int NO_FORETOLD = -100000;
-    private static final int[] WRONG = {-1, -2, 9999, Integer.MIN_VALUE, Integer.MAX_VALUE};
-
-    private static int wrong = 0;
-    private static int asked = 0;
-
+public final class PromisesTest extends Checks {
     public static void main(String[] args) {
-        newObject();
-        plate();
-        spot();
-        wipe();
-        reach();
-        look();
-        of();
-        layTurnsAndStretches();
-        layChoice();
-        layNone();
-        pairs();
-        track();
-        place();
-        motion();
-        tellSteady();
-        tellRest();
-        foretell();
-        slip();
-        slipOrder();
-        changesAreSeen();
-        System.out.println(asked + " answers, " + wrong + " of them not as due");
-        if (wrong != 0) {
-            System.exit(1);
-        }
-    }
-
-    private static void due(String what, long got, long want) {
-        asked++;
-        if (got != want) {
-            wrong++;
-            System.out.println(what + " answered " + got + ", due is " + want);
-        }
-    }
-
-    private static void due(String what, boolean got, boolean want) {
-        due(what, got ? 1 : 0, want ? 1 : 0);
-    }
-
-    /** A plate of a year with spots at x, y, x, y, .. */
-    private static int put(StarPlates s, int year, int... places) {
-        int p = s.plate(year);
-        for (int n = 0; n + 1 < places.length; n += 2) {
-            due("spot " + n / 2 + " of plate " + p, s.spot(p, places[n], places[n + 1]), n / 2);
-        }
-        return p;
-    }
-
-    private static void dueLay(String what, StarPlates s, int a, int b, int... want) {
-        for (int n = 0; n < want.length; n++) {
-            due(what + ": lay(" + a + ", " + b + ", " + n + ")", s.lay(a, b, n), want[n]);
-        }
-    }
-
-    private static void duePairs(String what, StarPlates s, int a, int b, int... want) {
-        for (int j = 0; j < want.length; j++) {
-            due(what + ": pair(" + a + ", " + b + ", " + j + ")", s.pair(a, b, j), want[j]);
-        }
+        run(PromisesTest::newObject, PromisesTest::plate, PromisesTest::spot, PromisesTest::wipe,
+                PromisesTest::reach, PromisesTest::look, PromisesTest::of, PromisesTest::layTurnsAndStretches,
+                PromisesTest::layChoice, PromisesTest::layNone, PromisesTest::pairs, PromisesTest::track,
+                PromisesTest::place, PromisesTest::motion, PromisesTest::tellSteady, PromisesTest::tellRest,
+                PromisesTest::foretell, PromisesTest::slip, PromisesTest::slipOrder,
+                PromisesTest::changesAreSeen);
     }
 
     private static void newObject() {
@@ -543,12 +485,6 @@ public final class PromisesTest {
         due("two thirds up", third.foretell(3, 2, 0), 501);
         due("a third down", third.foretell(3, 1, 1), 500);
         due("two thirds down", third.foretell(3, 2, 1), 499);
-    }
-
-    private static void dueSlip(String what, StarPlates s, int p, int j, int... want) {
-        for (int n = 0; n < 3; n++) {
-            due(what + ": slip(" + p + ", " + j + ", " + n + ")", s.slip(p, j, n), want[n]);
-        }
     }
 
     /** The frame and a plate with three spots alike, those of the frame and one of the plate more. */
