@@ -607,7 +607,8 @@ public final class StarPlates {
         private static final int LONE = 1000;
         /** 9 choices for each of 8 rows: 9 to the 8th. */
         private static final long ORDERS = 43046721L;
-        private static final long ENDLESS = Long.MAX_VALUE / 4;
+        /** Above every cost, and far enough below the greatest long for sums. */
+        private static final long ENDLESS = 1L << 60;
 
         int count;
         int sum;

@@ -13,7 +13,7 @@ abstract class Checks {
 
     /** Spots so far apart and so uneven that plates with them are laid as they lie. */
     private static final int[] ANCHORS = {100, 100, 300, 140, 920, 180, 140, 880};
-    private static final long PATIENCE_SECONDS = 600;
+    private static final int PATIENCE_SECONDS = 120;
 
     private static String sentence = "";
     private static int sentences = 0;
@@ -25,7 +25,7 @@ abstract class Checks {
 
     /** Runs the parts, tells what was wrong, and ends with 1 if anything was. */
     static void run(Runnable... parts) {
-        watch();
+        watch(PATIENCE_SECONDS);
         for (Runnable part : parts) {
             part.run();
         }
@@ -37,14 +37,14 @@ abstract class Checks {
     }
 
     /** A call that doesn't end must fail the test, not hold it up. */
-    private static void watch() {
+    static void watch(int seconds) {
         Thread watcher = new Thread(() -> {
             try {
-                Thread.sleep(1000 * PATIENCE_SECONDS);
+                Thread.sleep(1000L * seconds);
             } catch (InterruptedException e) {
                 return;
             }
-            System.out.println(sentence + ": no end after " + PATIENCE_SECONDS + " seconds");
+            System.out.println(sentence + ": no end after " + seconds + " seconds");
             Runtime.getRuntime().halt(1);
         });
         watcher.setDaemon(true);

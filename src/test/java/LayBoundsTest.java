@@ -3,13 +3,14 @@ public final class LayBoundsTest extends Checks {
     /** Eight spots far apart and uneven, so that there is one good lay alone. */
     private static final int[] EIGHT =
             {100, 100, 300, 120, 550, 90, 820, 300, 480, 420, 130, 560, 700, 700, 350, 880};
+    private static final int[][] ORDERS = {{0, 1, 2}, {0, 2, 1}, {1, 0, 2}, {1, 2, 0}, {2, 0, 1}, {2, 1, 0}};
 
     public static void main(String[] args) {
         run(LayBoundsTest::layRefused, LayBoundsTest::layNone, LayBoundsTest::turns, LayBoundsTest::stretches,
                 LayBoundsTest::shifts, LayBoundsTest::rightUpon, LayBoundsTest::mostAndLeast,
                 LayBoundsTest::leastOfAlike, LayBoundsTest::far, LayBoundsTest::reachOfPairs,
                 LayBoundsTest::oneAtMost, LayBoundsTest::asMany, LayBoundsTest::firstOfAlike,
-                LayBoundsTest::full, LayBoundsTest::pairRefused, LayBoundsTest::changes);
+                LayBoundsTest::firstOfMany, LayBoundsTest::full, LayBoundsTest::pairRefused, LayBoundsTest::changes);
     }
 
     private static void layRefused() {
@@ -397,6 +398,41 @@ public final class LayBoundsTest extends Checks {
             anchored(s, 1, 300, 700, 350, 250, 650, 300, 500, 500);
             anchored(s, 2, 499, 500, 501, 500);
             duePairs("the eighth of A", s, 0, 1, 0, 1, 2, 3, 7, NONE);
+        });
+    }
+
+    /** All of B lie to the right of all of A, so that every choice has the same sum. */
+    private static StarPlates inRow(int[] lowerOrder, int[] upperOrder) {
+        int[] lower = {500, 503, 506};
+        int[] upper = {510, 514, 517};
+        StarPlates s = new StarPlates();
+        s.reach(20);
+        anchored(s, 1, lower[lowerOrder[0]], 500, lower[lowerOrder[1]], 500, lower[lowerOrder[2]], 500);
+        anchored(s, 2, upper[upperOrder[0]], 500, upper[upperOrder[1]], 500, upper[upperOrder[2]], 500);
+        return s;
+    }
+
+    private static void firstOfMany() {
+        sentence("Terms: of these the first: of all choices alike, wherever the nearest are", () -> {
+            for (int[] lowerOrder : ORDERS) {
+                for (int[] upperOrder : ORDERS) {
+                    StarPlates s = inRow(lowerOrder, upperOrder);
+                    dueLay("in a row", s, 0, 1, 7, 32, 0, 1, 0, 0);
+                    duePairs("in a row", s, 0, 1, 0, 1, 2, 3, 4, 5, 6);
+                }
+            }
+        });
+        sentence("Terms: of these the first: of all choices alike the last have none", () -> {
+            for (int[] upperOrder : ORDERS) {
+                for (int first : new int[] {500, 503}) {
+                    StarPlates s = new StarPlates();
+                    s.reach(20);
+                    anchored(s, 1, first, 500, 1003 - first, 500);
+                    anchored(s, 2, 510, 500 + upperOrder[0], 510, 500 + upperOrder[1], 510, 500 + upperOrder[2]);
+                    dueLay("two of three", s, 0, 1, 6, 17, 0, 1, 0, 0);
+                    duePairs("two of three", s, 0, 1, 0, 1, 2, 3, 4, 5, NONE);
+                }
+            }
         });
     }
 

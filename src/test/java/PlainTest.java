@@ -13,6 +13,7 @@ public final class PlainTest {
     private static long asked = 0;
 
     public static void main(String[] args) {
+        Checks.watch(900);
         for (int seed = 0; seed < 120 && wrong < 20; seed++) {
             new Run(seed, 0, 999, 8, 10).go();
             new Run(1000 + seed, 1, 30, 5, 50).go();
@@ -60,7 +61,8 @@ public final class PlainTest {
                 plate(random.nextInt(1000));
                 fill(p, base);
             }
-            while (calls.size() < MOST_CALLS - 120) {
+            // at most 119 questions and 4 changes a round, and never a call past the last one
+            while (calls.size() <= MOST_CALLS - 123) {
                 queries(60 + random.nextInt(60));
                 change(base);
             }

@@ -149,6 +149,12 @@ public final class SlipBoundsTest extends Checks {
             dueFound("the lesser", slipped(132, 456, 126, 456, 123, 456), 1, 1, 4);
             dueFound("the lesser, exchanged", slipped(132, 456, 123, 456, 126, 456), 1, 1, 4);
         });
+        sentence("Terms: the FRAME's first SPOT too", () -> {
+            StarPlates s = new StarPlates();
+            put(s, 10, 123, 456, 500, 500, 700, 110, 900, 800);
+            put(s, 40, 132, 456, 500, 500, 700, 110, 900, 800);
+            dueSlip("the first", s, 1, 0, 1, 1, 0);
+        });
         sentence("Terms: the FRAME's eighth SPOT too", () ->
                 dueFound("the eighth", slipped(132, 456, 600, 600, 700, 300, 450, 750, 123, 456), 1, 1, 7));
     }
@@ -164,6 +170,13 @@ public final class SlipBoundsTest extends Checks {
             s.wipe(1, 3);
             s.spot(1, 750, 510);
             dueSlip("750, 150 by y", s, 1, 3, 2, 0, 3);
+        });
+        sentence("Terms: a BEST LAY with one PAIR is enough", () -> {
+            StarPlates s = new StarPlates();
+            put(s, 10, 0, 0, 123, 456);
+            put(s, 40, 500, 0, 263, 456);
+            dueLay("the least shift", s, 0, 1, 1, 0, 0, 1, -500, 0);
+            dueSlip("623", s, 1, 1, 1, 0, 1);
         });
         sentence("15: NONE if there is no LAY, as the FRAME has no SPOTS", () -> {
             StarPlates s = new StarPlates();

@@ -6,7 +6,7 @@ public final class TrackBoundsTest extends Checks {
                 TrackBoundsTest::motionParts, TrackBoundsTest::tellRefused, TrackBoundsTest::tellSpots,
                 TrackBoundsTest::steady, TrackBoundsTest::still, TrackBoundsTest::together,
                 TrackBoundsTest::foretellYears, TrackBoundsTest::foretellRounds, TrackBoundsTest::foretellRefused,
-                TrackBoundsTest::changes);
+                TrackBoundsTest::full, TrackBoundsTest::changes);
     }
 
     private static void dueTrack(StarPlates s, int i, int... want) {
@@ -291,8 +291,9 @@ public final class TrackBoundsTest extends Checks {
     private static void tellRefused() {
         sentence("13: NONE for another what", () -> {
             for (int what : new int[] {-1, 4, 5, Integer.MIN_VALUE, Integer.MAX_VALUE}) {
-                due("with motion: tell(4, " + what + ")", sky().tell(4, what), NONE);
-                due("without: tell(6, " + what + ")", sky().tell(6, what), NONE);
+                due("with another: tell(4, " + what + ")", twoMoved(3, -2, 3, -2).tell(4, what), NONE);
+                due("still: tell(0, " + what + ")", sky().tell(0, what), NONE);
+                due("without motion: tell(6, " + what + ")", sky().tell(6, what), NONE);
             }
         });
         sentence("13: NONE for a TRACK below 0", () -> {
@@ -377,11 +378,12 @@ public final class TrackBoundsTest extends Checks {
             due("at reach 0", moved(0, 0, 3, 0, 0).tell(4, 0), 1);
         });
         sentence("Terms: STEADY if each of its SPOTS is, by its own YEAR", () -> {
-            int[] years = {40, 10, 0, 30, 20};
-            due("all on the way", steadyOfFive(years, 504, 501, 500, 503, 502), 1);
-            due("the one of 10 is off", steadyOfFive(years, 504, 495, 500, 503, 502), 0);
-            due("the one of 20 is off", steadyOfFive(years, 504, 501, 500, 503, 496), 0);
-            due("the one of 30 is off", steadyOfFive(years, 504, 501, 500, 497, 502), 0);
+            for (int turned = 0; turned < 5; turned++) {
+                due("all on the way", steadyOfFive(turned, 500, 501, 502, 503, 504), 1);
+                due("the one of 10 is off", steadyOfFive(turned, 500, 495, 502, 503, 504), 0);
+                due("the one of 20 is off", steadyOfFive(turned, 500, 501, 496, 503, 504), 0);
+                due("the one of 30 is off", steadyOfFive(turned, 500, 501, 502, 497, 504), 0);
+            }
         });
         sentence("Terms: STEADY: a MISS between doesn't count", () -> {
             StarPlates s = new StarPlates();
@@ -392,11 +394,13 @@ public final class TrackBoundsTest extends Checks {
         });
     }
 
-    private static int steadyOfFive(int[] years, int... at) {
+    /** Places by the years 0, 10, .. 40; the plates come in this order, but from another one on. */
+    private static int steadyOfFive(int turned, int... at) {
         StarPlates s = new StarPlates();
         s.reach(5);
         for (int p = 0; p < 5; p++) {
-            anchored(s, years[p], at[p], 500);
+            int n = (p + turned) % 5;
+            anchored(s, 10 * n, at[n], 500);
         }
         due("all found", s.tell(4, 2), 5);
         return s.tell(4, 0);
@@ -484,6 +488,13 @@ public final class TrackBoundsTest extends Checks {
             for (int i = 0; i < 8; i++) {
                 due("of " + i, s.tell(i, 3), want[i]);
             }
+        });
+        sentence("13: the least other one may be TRACK 0", () -> {
+            StarPlates s = new StarPlates();
+            put(s, 0, 500, 500, 100, 100, 300, 140, 920, 180, 140, 880, 700, 600);
+            put(s, 6, 501, 500, 100, 100, 300, 140, 920, 180, 140, 880, 701, 600);
+            due("of 0", s.tell(0, 3), 5);
+            due("of 5", s.tell(5, 3), 0);
         });
         sentence("13: NONE: one without MOTION goes with none, and none with it", () -> {
             StarPlates s = twoMoved(3, -2, 3, -2);
@@ -589,6 +600,55 @@ public final class TrackBoundsTest extends Checks {
             }
             due("past the eighth", eightTracks().foretell(8, 5, 0), NO_FORETOLD);
             due("the frame is without spots", emptyFrame().foretell(0, 5, 0), NO_FORETOLD);
+        });
+    }
+
+    /** Five plates of eight spots; spots 4 to 7 move by 1, 2, 3, 4 from plate to plate. */
+    private static StarPlates fullHouse() {
+        StarPlates s = new StarPlates();
+        s.reach(16);
+        for (int p = 0; p < 5; p++) {
+            anchored(s, 900 - p, 500 - p, 500, 600 - 2 * p, 300, 700, 700 - 3 * p, 450, 820 + 4 * p);
+        }
+        return s;
+    }
+
+    private static void full() {
+        sentence("Terms: 5 PLATES of 8 SPOTS: every TRACK over all of them", () -> {
+            StarPlates s = fullHouse();
+            due("frame", s.look(2), 4);
+            due("tracks", s.look(3), 8);
+            due("still ones", s.look(4), 4);
+            due("misses", s.look(5), 0);
+            for (int i = 0; i < 8; i++) {
+                dueTrack(s, i, i, i, i, i, i);
+                due("spots of " + i, s.tell(i, 2), 5);
+                due("steady " + i, s.tell(i, 0), 1);
+            }
+            dueMotion("1", s, 4, 1, 1, 0, 1);
+            dueMotion("2", s, 5, 2, 1, 0, 1);
+            dueMotion("3", s, 6, 0, 1, 3, 1);
+            dueMotion("-4", s, 7, 0, 1, -4, 1);
+        });
+        sentence("Terms: 5 PLATES of 8 SPOTS: REACH may become another", () -> {
+            StarPlates s = fullHouse();
+            due("misses at 16", s.look(5), 0);
+            due("reach(15)", s.reach(15), true);
+            due("misses at 15", s.look(5), 1);
+            due("reach(0)", s.reach(0), true);
+            due("misses at 0", s.look(5), 16);
+            due("reach(16)", s.reach(16), true);
+            due("misses at 16 again", s.look(5), 0);
+        });
+        sentence("Terms: 5 PLATES of 8 SPOTS: a SPOT of the last may go and come", () -> {
+            StarPlates s = fullHouse();
+            due("tracks", s.look(3), 8);
+            due("wipe(4, 7)", s.wipe(4, 7), true);
+            due("tracks with one less", s.look(3), 7);
+            due("spot(4, 450, 836)", s.spot(4, 450, 836), 7);
+            dueTrack(s, 7, 7, 7, 7, 7, 7);
+            due("wipe(0, 7)", s.wipe(0, 7), true);
+            due("misses", s.look(5), 1);
         });
     }
 
