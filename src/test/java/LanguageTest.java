@@ -9,7 +9,9 @@ import java.nio.file.Path;
 import java.util.ArrayList;
 import java.util.Arrays;
 import java.util.List;
+import java.util.Map;
 import java.util.Set;
+import java.util.TreeMap;
 import java.util.TreeSet;
 import java.util.regex.Matcher;
 import java.util.regex.Pattern;
@@ -22,6 +24,7 @@ public final class LanguageTest {
             "int look(int)", "int of(int, int)", "int lay(int, int, int)", "int pair(int, int, int)",
             "int track(int, int)", "int place(int, int, int)", "int motion(int, int)", "int tell(int, int)",
             "int foretell(int, int, int)", "int slip(int, int, int)"));
+    private static final int DEEPEST = 8;
     private static int wrong = 0;
 
     public static void main(String[] args) throws IOException {
@@ -35,6 +38,7 @@ public final class LanguageTest {
         }
         words(withoutComments(Files.readString(Path.of(SOURCE))));
         methodLengths(Files.readAllLines(Path.of(SOURCE)));
+        callDepths(withoutComments(Files.readString(Path.of(SOURCE))));
         System.out.println(wrong == 0 ? "all rules are kept" : wrong + " rules are broken");
         if (wrong != 0) {
             System.exit(1);
@@ -139,5 +143,35 @@ public final class LanguageTest {
             }
         }
         due(start < 0, "every method has an end");
+    }
+
+    /** By their names alone, so a method may seem to call more than it does, but never less. */
+    private static void callDepths(String code) {
+        Map<String, String> bodies = new TreeMap<>();
+        Matcher method = Pattern.compile(
+                "(?ms)^( {4}| {8})(?! |if|for|while|switch)[\\w\\[\\] ]*\\b(\\w+)\\([^;{]*\\) \\{$(.*?)^\\1\\}$").matcher(code);
+        while (method.find()) {
+            bodies.merge(method.group(2), method.group(3), String::concat);
+        }
+        for (Method one : StarPlates.class.getDeclaredMethods()) {
+            due(bodies.containsKey(one.getName()), "found in the source: " + one.getName());
+        }
+        for (String name : bodies.keySet()) {
+            int depth = callDepth(name, bodies, 1);
+            due(depth <= DEEPEST, "calls at most eight deep and none that comes back: " + name);
+        }
+    }
+
+    /** How many calls stand open at most, with those of the library; a circle goes past the bound. */
+    private static int callDepth(String name, Map<String, String> bodies, int depth) {
+        int most = depth;
+        Matcher call = Pattern.compile("((?:Math|Arrays|System)\\.)?\\b(\\w+)\\(").matcher(bodies.getOrDefault(name, ""));
+        while (call.find() && most <= DEEPEST) {
+            if (call.group(1) != null || bodies.containsKey(call.group(2))) {
+                String next = call.group(1) != null ? call.group() : call.group(2);
+                most = Math.max(most, callDepth(next, bodies, depth + 1));
+            }
+        }
+        return most;
     }
 }
